@@ -140,7 +140,8 @@ public final class SwallowedInTurn {
             return OUTSIDE;
         }
         outlook.lookFrom(now);
-        return what == 0 ? outlook.stepsUntilOut(set) : outlook.firstDeedUntilOut(set);
+        int place = outlook.placeWhereOut(set);
+        return what == 0 ? outlook.stepsAt(place) : outlook.firstAt(place);
     }
 
     public int together(int a, int b) {
@@ -148,7 +149,7 @@ public final class SwallowedInTurn {
             return UNKNOWN;
         }
         outlook.lookFrom(now);
-        return outlook.stepsUntilTogether(a, b);
+        return outlook.stepsAt(outlook.placeWhereTogether(a, b));
     }
 
     public int deep(int being) {
@@ -262,13 +263,13 @@ public final class SwallowedInTurn {
             }
             h = 31 * h + outlook.mostWalls(being);
         }
-        int all = crowd.all();
+        int allOut = outlook.placeWhereOut(crowd.all());
         h = 31 * h + now.toNumber();
         h = 31 * h + outlook.total();
         h = 31 * h + outlook.fitting(talk);
         h = 31 * h + outlook.bestAsked(talk);
-        h = 31 * h + outlook.stepsUntilOut(all);
-        h = 31 * h + outlook.firstDeedUntilOut(all);
+        h = 31 * h + outlook.stepsAt(allOut);
+        h = 31 * h + outlook.firstAt(allOut);
         for (int place = 0; place < page.length(); place++) {
             h = 31 * h + page.letterAt(place);
         }
@@ -287,9 +288,10 @@ public final class SwallowedInTurn {
     }
 
     private static boolean isDeed(int deed) {
-        return isBetween(deed, 0, SWALLOWS_END - 1)
-                || isBetween(deed, COUGHS, COUGHS + MOST_BEINGS - 1)
-                || isBetween(deed, YAWNS, YAWNS + MOST_BEINGS - 1);
+        if (deed < 0 || deed >= DEEDS_END) {
+            return false;
+        }
+        return deed < SWALLOWS_END || deed >= COUGHS && deed % 10 < MOST_BEINGS;
     }
 
     private static int doer(int deed) {
@@ -453,13 +455,13 @@ public final class SwallowedInTurn {
             return heard;
         }
 
+        /** Whether there is at most one wall between them: around none of them, around a, or around b. */
         private boolean hears(int a, int b) {
             int aroundA = holder(a);
             int aroundB = holder(b);
-            if (aroundA == aroundB || aroundA == b || aroundB == a) {
-                return true;
-            }
-            return aroundA != NONE && holder(aroundA) == aroundB
+            // What is around a may be b itself, or be where b is: both are told alike by where it is.
+            return aroundA == aroundB
+                    || aroundA != NONE && holder(aroundA) == aroundB
                     || aroundB != NONE && holder(aroundB) == aroundA;
         }
 
@@ -467,11 +469,12 @@ public final class SwallowedInTurn {
             if (!crowd.knows(deed)) {
                 return false;
             }
+            int doer = doer(deed);
             if (deed < SWALLOWS_END) {
-                return canSwallow(doer(deed), prey(deed));
+                return canSwallow(doer, prey(deed));
             }
             int out = comingOut(deed);
-            return out != 0 && canTake(holder(doer(deed)), out);
+            return out != 0 && canTake(holder(doer), out);
         }
 
         /** Carries out a deed that it allows. */
@@ -571,11 +574,13 @@ public final class SwallowedInTurn {
         private final Nesting next;
         /** The numbers of the nestings that can come, the sooner the earlier. */
         private final int[] reached = new int[MOST_NESTINGS];
+        /** Beside each of these: by how few deeds it can come. */
+        private final int[] steps = new int[MOST_NESTINGS];
+        /** Beside each of these: the least deed that begins so short a row; NONE: it is there at once. */
+        private final int[] firsts = new int[MOST_NESTINGS];
         private int total;
-        /** By number: by how few deeds it can come; NONE: it can't. */
-        private final int[] steps = new int[NUMBERS];
-        /** By number: the least deed that begins so short a row; NONE: it is there at once. */
-        private final int[] firsts = new int[NUMBERS];
+        /** By number: whether it is among these. */
+        private final boolean[] isReached = new boolean[NUMBERS];
         /** By what one might say, as bits: in how many nestings it would. */
         private final int[] answers = new int[1 << MOST_BEINGS];
         /** From which nesting of how many beings it was looked, so as not to look twice. */
@@ -595,47 +600,58 @@ public final class SwallowedInTurn {
             }
             startNumber = number;
             startTotal = crowd.total();
-            Arrays.fill(steps, NONE);
+            for (int i = 0; i < isReached.length; i++) {
+                isReached[i] = false;
+            }
             total = 0;
             reach(number, 0, NONE);
             for (int i = 0; i < total && i < reached.length; i++) {
-                spread(reached[i]);
+                spread(i);
             }
         }
 
-        private void spread(int number) {
-            here.become(number);
-            int step = stepsTo(number) + 1;
-            int first = firstTo(number);
+        /**
+         * Deeds are tried from the least on, and nestings in the order in which they were reached:
+         * so the first row by which one is reached is the shortest, and of like ones begins with the least deed.
+         */
+        private void spread(int place) {
+            here.become(reachedAt(place));
+            int step = stepsAt(place) + 1;
+            int first = firstAt(place);
             for (int deed = 0; deed < DEEDS_END; deed++) {
                 if (here.allows(deed)) {
                     next.copy(here);
                     next.carryOut(deed);
-                    reach(next.toNumber(), step, step == 1 ? deed : first);
+                    reach(next.toNumber(), step, first == NONE ? deed : first);
                 }
             }
         }
 
         private void reach(int number, int step, int first) {
-            if (number < 0 || number >= steps.length || number >= firsts.length) {
+            if (number < 0 || number >= isReached.length || isReached[number]) {
                 return;
             }
-            if (steps[number] == NONE && total >= 0 && total < reached.length) {
-                steps[number] = step;
-                firsts[number] = first;
-                reached[total] = number;
-                total++;
-            } else if (steps[number] == step && first < firsts[number]) {
-                firsts[number] = first;
+            if (total < 0 || total >= reached.length || total >= steps.length || total >= firsts.length) {
+                return;
             }
+            isReached[number] = true;
+            reached[total] = number;
+            steps[total] = step;
+            firsts[total] = first;
+            total++;
         }
 
-        private int stepsTo(int number) {
-            return number >= 0 && number < steps.length ? steps[number] : NONE;
+        private int reachedAt(int place) {
+            return place >= 0 && place < reached.length ? reached[place] : 0;
         }
 
-        private int firstTo(int number) {
-            return number >= 0 && number < firsts.length ? firsts[number] : NONE;
+        /** By how few deeds the nesting at a place is reached; NONE: there is no place. */
+        int stepsAt(int place) {
+            return place >= 0 && place < steps.length ? steps[place] : NONE;
+        }
+
+        int firstAt(int place) {
+            return place >= 0 && place < firsts.length ? firsts[place] : NONE;
         }
 
         int total() {
@@ -645,8 +661,8 @@ public final class SwallowedInTurn {
         /** The number of the so-manieth nesting that can come, by number; NONE: there are not so many. */
         int numberAt(int place) {
             int passed = 0;
-            for (int number = 0; number < steps.length; number++) {
-                if (steps[number] != NONE) {
+            for (int number = 0; number < isReached.length; number++) {
+                if (isReached[number]) {
                     if (passed == place) {
                         return number;
                     }
@@ -656,36 +672,23 @@ public final class SwallowedInTurn {
             return NONE;
         }
 
-        int stepsUntilOut(int set) {
+        /** The place of the soonest nesting in which all these are outside; NONE: none comes. */
+        int placeWhereOut(int set) {
             for (int i = 0; i < total && i < reached.length; i++) {
                 here.become(reached[i]);
                 if (here.areOutside(set)) {
-                    return stepsTo(reached[i]);
+                    return i;
                 }
             }
             return NONE;
         }
 
-        int firstDeedUntilOut(int set) {
-            int fewest = stepsUntilOut(set);
-            int least = NONE;
-            for (int i = 0; i < total && i < reached.length; i++) {
-                if (stepsTo(reached[i]) == fewest) {
-                    here.become(reached[i]);
-                    int first = firstTo(reached[i]);
-                    if (here.areOutside(set) && (least == NONE || first < least)) {
-                        least = first;
-                    }
-                }
-            }
-            return least;
-        }
-
-        int stepsUntilTogether(int a, int b) {
+        /** The place of the soonest nesting in which two are right in the same one; NONE: none comes. */
+        int placeWhereTogether(int a, int b) {
             for (int i = 0; i < total && i < reached.length; i++) {
                 here.become(reached[i]);
                 if (here.holder(a) == here.holder(b)) {
-                    return stepsTo(reached[i]);
+                    return i;
                 }
             }
             return NONE;

@@ -11,6 +11,7 @@ public final class BeingsTest {
         mayIsRefused();
         onlyBeastsThatLikeItSwallow();
         sizesMustFit();
+        theFirstFillsToo();
         theFullAreNotSwallowed();
         theyMustBeInTheSame();
         coughsAndYawns();
@@ -190,6 +191,26 @@ public final class BeingsTest {
         }
     }
 
+    /** Being 0 fills as any other. */
+    private static void theFirstFillsToo() {
+        SwallowedInTurn x = new SwallowedInTurn();
+        x.being(BEAST, 3, 3, 1 << BEING);
+        x.being(BEAST, 1, 4, 31);
+        x.being(BEING, 2, 0, 0);
+        x.deed(5);
+        Check.due("filled by being 0", x.about(1, 5), 3);
+        Check.due("no room behind being 0", x.may(7), 0);
+        SwallowedInTurn y = new SwallowedInTurn();
+        y.being(BEING, 3, 0, 0);
+        y.being(BEAST, 2, 9, 31);
+        y.being(BEAST, 2, 4, 31);
+        y.deed(5);
+        y.deed(11);
+        Check.due("no room for being 0 to come out", y.may(31), 0);
+        y.deed(32);
+        Check.due("room for being 0 outside", y.may(31), 1);
+    }
+
     private static void theFullAreNotSwallowed() {
         SwallowedInTurn x = new SwallowedInTurn();
         x.being(BEAST, 9, 20, 31);
@@ -253,6 +274,11 @@ public final class BeingsTest {
         Check.due("a wolf has yawned", x.number(), 0);
         Check.due("an empty one may yawn", x.may(42), 0);
         Check.due("an empty one may cough", x.may(32), 0);
+        x = Check.beasts(3);
+        x.deed(1);
+        x.deed(2);
+        x.deed(40);
+        Check.due("the first of all has yawned", x.number(), 0);
         x = filledWithThree(PIKE);
         Check.due("a pike yawns", x.deed(42), SwallowedInTurn.STATE);
         Check.due("a pike has not yawned", x.number(), 3 + 3 * 6 + 3 * 216);

@@ -8,6 +8,7 @@ public final class HeardTest {
         fitsCountsNestings();
         sureWhereOneIs();
         askTheOneThatTellsMost();
+        eachLooksFromNow();
         whatWasToldStays();
         Check.end();
     }
@@ -127,6 +128,23 @@ public final class HeardTest {
         Check.due("nestings of three in line", y.many(), 5);
         Check.due("ask when the least tells nothing", y.ask(), 1);
         Check.due("ask changes nothing", y.number() + y.count(2) + y.count(3), 0);
+    }
+
+    /** Each call looks for itself, whatever was asked ahead of it. */
+    private static void eachLooksFromNow() {
+        Check.due("sure as the first call", chainOfThree().sure(1), 0);
+        Check.due("ask as the first call", chainOfThree().ask(), 0);
+        Check.due("fits as the first call", chainOfThree().fits(), 1);
+    }
+
+    /** It is told that 0 hears 1 alone: so 2 is in 1, and 1 in 0. */
+    private static SwallowedInTurn chainOfThree() {
+        SwallowedInTurn x = new SwallowedInTurn();
+        x.being(1, 1, 9, 2);
+        x.being(1, 1, 9, 1);
+        x.being(0, 1, 0, 0);
+        x.told(0, 0b010);
+        return x;
     }
 
     private static void whatWasToldStays() {

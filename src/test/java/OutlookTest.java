@@ -8,6 +8,7 @@ public final class OutlookTest {
     public static void main(String[] args) {
         soonestCountsDeeds();
         soonestTakesTheLeastFirstDeed();
+        soonestFindsTheLeastOfLikeRows();
         soonestIsRefused();
         togetherCountsDeeds();
         togetherIsRefused();
@@ -62,6 +63,10 @@ public final class OutlookTest {
         soonestIs(x, 0b010, 2, 7);
         soonestIs(x, 0b100, 1, 30);
         soonestIs(x, 0b110, 2, 30);
+        SwallowedInTurn first = Check.beasts(2);
+        first.deed(5);
+        soonestIs(first, 0b01, 1, 31);
+        soonestIs(first, 0b11, 1, 31);
         SwallowedInTurn yawner = Check.beasts(4);
         yawner.deed(17);
         yawner.deed(16);
@@ -70,6 +75,26 @@ public final class OutlookTest {
         soonestIs(yawner, 0b1111, 1, 43);
         soonestIs(yawner, 0b0100, 1, 33);
         soonestIs(yawner, 0b0011, 1, 43);
+    }
+
+    private static void soonestFindsTheLeastOfLikeRows() {
+        // The same nesting comes by rows that begin otherwise: the least first deed counts.
+        SwallowedInTurn x = new SwallowedInTurn();
+        x.being(FISH, 1, 20, 31);
+        x.being(BEAST, 1, 20, 31);
+        x.being(FISH, 1, 20, 31);
+        x.being(BEAST, 1, 20, 31);
+        x.being(BEING, 1, 0, 0);
+        x.deed(13);
+        x.deed(9);
+        x.deed(1);
+        x.deed(2);
+        // All are out by four coughs, or when 1 has swallowed 2, comes out, yawns, and 2 coughs.
+        soonestIs(x, 0b11111, 4, 7);
+        soonestIs(x, 0b00010, 2, 7);
+        // 1 coughs 4 into 0, that coughs it out, as the one of the greatest number there.
+        soonestIs(x, 0b10000, 2, 31);
+        soonestIs(x, 0b01000, 2, 30);
     }
 
     private static void soonestIsRefused() {
@@ -196,6 +221,7 @@ public final class OutlookTest {
         Check.due("nesting(5)", x.nesting(5), SwallowedInTurn.OUTSIDE);
         Check.due("nesting(MIN)", x.nesting(Integer.MIN_VALUE), SwallowedInTurn.OUTSIDE);
         Check.due("nesting(MAX)", x.nesting(Integer.MAX_VALUE), SwallowedInTurn.OUTSIDE);
+        Check.due("nesting(2) as the first call", Check.beasts(2).nesting(2), 6);
         SwallowedInTurn alone = new SwallowedInTurn();
         alone.being(BEAST, 1, 20, 31);
         Check.due("many() of one", alone.many(), 1);

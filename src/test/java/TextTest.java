@@ -112,6 +112,8 @@ public final class TextTest {
         taleIs(3, "s12,s01,y1,y1,y0", 3);
         taleIs(3, "s01,c0,c0", 2);
         taleIs(3, "s01,c1", 1);
+        taleIs(3, "s01,s02,y0,c0", 3);
+        taleIs(3, "s01,s02,c0,c0,c0", 4);
         taleIs(3, "s03", 0);
         taleIs(3, "s30", 0);
         taleIs(3, "s01,c3", 1);
