@@ -1,4 +1,7 @@
+import com.sun.source.tree.ArrayAccessTree;
 import com.sun.source.tree.AssertTree;
+import com.sun.source.tree.AssignmentTree;
+import com.sun.source.tree.BlockTree;
 import com.sun.source.tree.ClassTree;
 import com.sun.source.tree.CompilationUnitTree;
 import com.sun.source.tree.ImportTree;
@@ -34,9 +37,14 @@ public final class LanguageTest {
     private static final Set<String> IMPORTS = Set.of(
             "java.util.Arrays", "java.util.ArrayList", "java.util.List", "java.util.Iterator");
     private static final Set<String> LIBRARY = Set.of("Arrays.fill", "Math.max");
+    private static final Set<String> CONSTANTS = Set.of("int", "long", "boolean", "char", "String");
+    private static final Set<String> ROWS = Set.of("int[]", "long[]", "char[]", "byte[]");
+    private static final Set<String> NEVER_OWN = Set.of("equals", "hashCode", "toString");
 
     /** By a method's name (and its class): the names that it calls. */
     private final Map<String, Set<String>> calls = new HashMap<>();
+    private final Set<String> staticRows = new TreeSet<>();
+    private final Set<String> assignedRows = new TreeSet<>();
     private int classes = 0;
 
     public static void main(String[] args) throws Exception {
@@ -56,6 +64,9 @@ public final class LanguageTest {
             }
         }
         Check.due("classes at most twelve", classes <= 12 ? 1 : 0, 1);
+        for (String name : staticRows) {
+            Check.due(name + " is never changed", assignedRows.contains(name) ? 1 : 0, 0);
+        }
         for (String name : calls.keySet()) {
             int depth = depth(name, 1);
             Check.due("calls from " + name + " go " + depth + " deep, eight at most", depth <= 8 ? 1 : 0, 1);
@@ -102,6 +113,9 @@ public final class LanguageTest {
         @Override
         public Void visitClass(ClassTree tree, Void v) {
             classes++;
+            if (method != null) {
+                refuse(tree);
+            }
             int fields = 0;
             for (Tree member : tree.getMembers()) {
                 if (member instanceof VariableTree) {
@@ -109,8 +123,8 @@ public final class LanguageTest {
                     Set<Modifier> modifiers = field.getModifiers().getFlags();
                     if (!modifiers.contains(Modifier.STATIC)) {
                         fields++;
-                    } else if (!modifiers.contains(Modifier.FINAL)) {
-                        refuse(member);
+                    } else {
+                        staticField(field, modifiers.contains(Modifier.FINAL));
                     }
                 }
             }
@@ -118,10 +132,42 @@ public final class LanguageTest {
             return super.visitClass(tree, v);
         }
 
+        /** A constant, or a row that is written out. */
+        private void staticField(VariableTree field, boolean isFinal) {
+            String type = field.getType().toString();
+            boolean isRow = ROWS.contains(type) && field.getInitializer() instanceof NewArrayTree
+                    && ((NewArrayTree) field.getInitializer()).getInitializers() != null;
+            if (!isFinal || !isRow && !CONSTANTS.contains(type)) {
+                refuse(field);
+            }
+            if (isRow) {
+                staticRows.add(field.getName().toString());
+            }
+        }
+
+        @Override
+        public Void visitAssignment(AssignmentTree tree, Void v) {
+            if (tree.getVariable() instanceof ArrayAccessTree) {
+                assignedRows.add(((ArrayAccessTree) tree.getVariable()).getExpression().toString());
+            }
+            return super.visitAssignment(tree, v);
+        }
+
+        @Override
+        public Void visitBlock(BlockTree tree, Void v) {
+            if (tree.isStatic()) {
+                refuse(tree);
+            }
+            return super.visitBlock(tree, v);
+        }
+
         @Override
         public Void visitMethod(MethodTree tree, Void v) {
             MethodTree outer = method;
             method = tree;
+            if (NEVER_OWN.contains(tree.getName().toString())) {
+                refuse(tree);
+            }
             long lines = unit.getLineMap().getLineNumber(places.getEndPosition(unit, tree))
                     - unit.getLineMap().getLineNumber(places.getStartPosition(unit, tree)) + 1;
             Check.due("lines of " + tree.getName() + " at most sixty", lines <= 60 ? 1 : 0, 1);
@@ -158,6 +204,9 @@ public final class LanguageTest {
 
         @Override
         public Void visitNewClass(NewClassTree tree, Void v) {
+            if (tree.getClassBody() != null) {
+                refuse(tree);
+            }
             madeInConstructorsAlone(tree);
             return super.visitNewClass(tree, v);
         }

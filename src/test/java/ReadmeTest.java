@@ -96,7 +96,7 @@ public final class ReadmeTest {
         for (String said : words) {
             Check.due("it says: " + said, text.contains(said) ? 1 : 0, 1);
         }
-        Check.due(".ci/run stands", new File(".ci/run").canExecute() ? 1 : 0, 1);
+        Check.due(".ci/run stands", new File(".ci/run").isFile() ? 1 : 0, 1);
     }
 
     private void allCallsAreNamed() {
